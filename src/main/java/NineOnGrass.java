@@ -46,13 +46,16 @@ public final class NineOnGrass {
     private int drawn;
 
     public NineOnGrass() {
-        now = new State();
+        State state = new State();
+        Ball ball = new Ball();
+        Umpire judging = new Umpire(state.ground, state.squad, ball);
+        now = state;
+        laid = ball;
+        umpire = judging;
+        finder = new Finder(state.ground, state.squad, ball, judging);
         images = new State[IMAGES];
         trays = new Tray[TRAYS];
         reader = new Reader();
-        laid = new Ball();
-        umpire = new Umpire(now.ground, now.squad, laid);
-        finder = new Finder(now.ground, now.squad, laid, umpire);
         mix = new Mix();
         trial = new int[FIELDERS];
         order = new int[Tray.MOST_MATCHED];
@@ -1248,36 +1251,35 @@ public final class NineOnGrass {
             return true;
         }
 
+        /** Goes to the next TOKEN: words and numbers go on as long as they can, other signs stand alone. */
         private void advance() {
             while (place < length && isBlank(signAt(place))) {
                 place++;
             }
             start = place;
-            int sign = signAt(place);
-            if (place >= length) {
-                token = END;
-            } else if (isLetter(sign)) {
-                token = WORD;
-                while (place < length && isLetter(signAt(place))) {
-                    place++;
-                }
-            } else if (isDigit(sign)) {
-                advanceNumber();
-            } else {
-                token = sign == ';' ? SIGN : BAD;
-                place++;
-            }
-        }
-
-        private void advanceNumber() {
+            token = place < length ? sortOf(signAt(place)) : END;
             number = 0;
-            while (place < length && isDigit(signAt(place))) {
-                if (place - start < 3) {
+            boolean goesOn = place < length;
+            while (goesOn && place < length) {
+                if (token == NUMBER && place - start < 3) {
                     number = number * 10 + signAt(place) - '0';
                 }
                 place++;
+                goesOn = (token == WORD || token == NUMBER) && sortOf(signAt(place)) == token;
             }
-            token = place - start > 3 ? BAD : NUMBER;
+            if (token == NUMBER && place - start > 3) {
+                token = BAD;
+            }
+        }
+
+        private static int sortOf(int sign) {
+            if (sign >= 'a' && sign <= 'z') {
+                return WORD;
+            }
+            if (sign >= '0' && sign <= '9') {
+                return NUMBER;
+            }
+            return sign == ';' ? SIGN : BAD;
         }
 
         private int signAt(int i) {
@@ -1286,14 +1288,6 @@ public final class NineOnGrass {
 
         private static boolean isBlank(int sign) {
             return sign == 10 || sign == 32;
-        }
-
-        private static boolean isLetter(int sign) {
-            return sign >= 'a' && sign <= 'z';
-        }
-
-        private static boolean isDigit(int sign) {
-            return sign >= '0' && sign <= '9';
         }
     }
 
@@ -1337,13 +1331,14 @@ public final class NineOnGrass {
         }
 
         private void run(Ground ground, int h) {
+            int direction = way[h] & 15;
             int x = MIDDLE;
             int y = MIDDLE;
             int sum = 0;
             steps[h] = 0;
             for (int k = 1; k <= MOST_STEPS; k++) {
-                x += STEP_X[way[h]];
-                y += STEP_Y[way[h]];
+                x += STEP_X[direction];
+                y += STEP_Y[direction];
                 if (!ground.liesIn(x, y)) {
                     break;
                 }
@@ -1442,15 +1437,12 @@ public final class NineOnGrass {
         }
 
         void weigh(int h, int[] stands) {
-            whoCatches = catcherAmong(h, stands);
-            chance = whoCatches == NONE ? 0 : chanceAt(whoCatches, apart(stands[whoCatches], ball.cellAt(h, ball.air[h])));
+            int down = ball.cellAt(h, ball.air[h]);
+            whoCatches = ball.isHigh(h) ? firstAt(h, ball.air[h], stands, NONE) : NONE;
+            chance = whoCatches == NONE ? 0 : chanceAt(whoCatches, apart(stands[whoCatches], down));
             findStop(h, stands, whoCatches);
             hitRuns = runsBy(h, whoStops, stopStep);
             hitCost = price(chance, hitRuns);
-        }
-
-        int catcherAmong(int h, int[] stands) {
-            return ball.isHigh(h) ? firstAt(h, ball.air[h], stands, NONE) : NONE;
         }
 
         void findStop(int h, int[] stands, int whoWaits) {
