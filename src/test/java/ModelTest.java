@@ -326,7 +326,10 @@ public final class ModelTest {
         int tray = near(0, 3);
         int n = chance(85) ? near(1, 4) : near(1, 6);
         if (chance(80)) {
-            fill(tray, from(1, 2), chance(90) ? Math.max(0, Math.min(n, 40)) : near(0, 8));
+            fill(tray, from(1, 2), chance(90) ? Math.max(0, Math.min(n, 40)) + from(0, 1) : near(0, 8));
+            if (chance(15)) {
+                call("write", tray, chance(50) ? n : near(0, 8), number());
+            }
         }
         for (int i = 0; i < 2; i++) {
             call("match", ball, tray, n, chance(90) ? from(0, Math.max(1, Math.min(n, 7)) - 1) : near(0, 6));

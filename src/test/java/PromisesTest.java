@@ -307,6 +307,9 @@ public final class PromisesTest {
         fault("edges 8;", 2, 0);
         fault("edg 8;", 2, 0);
         fault("at 8;", 2, 0);
+        for (String word : new String[] {"fun 3;", "ruk 3;", "tall 3 way", "bald 3 way", "dear 3;", "slog 3 at", "sidle 3;"}) {
+            fault(word, 2, 0);
+        }
         fault("edge 1;", 3, 5);
         fault("edge 9;", 3, 5);
         fault("run 0;", 3, 4);
@@ -675,6 +678,13 @@ public final class PromisesTest {
         due("the least of like ones", z.one(0, 0), 110);
         z.stand(2, 110);
         due("the least of like ones that is free", z.one(0, 0), 126);
+        due("also for another", z.one(2, 0), 110);
+        z.stand(0, 110);
+        due("the first has it", z.one(2, 0), 126);
+        due("who is on the left already counts", on("edge 2; side 1; run 1; ball 0 way 4 pace 9 for 1;",
+                143, 145, 110).one(1, 0), 127);
+        due("but not if it goes itself", on("edge 2; side 1; run 1; ball 0 way 4 pace 9 for 1;",
+                143, 145, 110).one(0, 0), 126);
         due("side counts", on("edge 2; side 0; run 1; ball 0 way 4 pace 9 for 1;", 145).one(0, 0), 110);
         promise = 23;
         due("settle(0, 0)", x.settle(0, 0), 0);
@@ -886,6 +896,8 @@ public final class PromisesTest {
         row(x, 2, 1, 145, 161);
         due("a CELL of one who stays", x.match(0, 2, 2, 0), NONE);
         due("it may be left by its own", x.match(0, 2, 1, 0), 0);
+        due("0 is a CELL, but not IN", match0(x, 0, 145), NONE);
+        due("only the first two are looked at", match0(x, 145, 143, 289, -1), 0);
         row(x, 2, 1, 289, 145);
         thrown("no CELL", BAD, () -> x.match(0, 2, 2, 0));
         thrown("no CELL, too few", BAD, () -> x.match(0, 2, 3, 0));
@@ -908,6 +920,11 @@ public final class PromisesTest {
         due("others aren't LAWFUL", x.match(0, 0, 2, 0), NONE);
     }
 
+    private static int match0(NineOnGrass x, int... numbers) {
+        row(x, 2, 1, numbers);
+        return x.match(0, 2, 2, 0);
+    }
+
     private static void promises32to34() {
         promise = 32;
         NineOnGrass x = on(PLAIN, 148, 93);
@@ -926,6 +943,7 @@ public final class PromisesTest {
         // East it comes too late: 1200 instead of 300 by 400.
         fraction("brave at the BAT", x, x.brave(0, 0, 144), 9, 4);
         fraction("brave(1, 5, 3)", x, x.brave(1, 5, 3), 0, 0);
+        fraction("brave in the last CELL", x, x.brave(1, 0, 288), 21, 5);
         thrown("brave(1, 0, 289)", BAD, () -> x.brave(1, 0, 289));
         thrown("brave(1, 0, NONE)", BAD, () -> x.brave(1, 0, NONE));
         thrown("brave(2, 0, 289)", ILL, () -> x.brave(2, 0, 289));
@@ -991,6 +1009,10 @@ public final class PromisesTest {
         due("enough(0, 1, 100)", x.enough(0, 1, 100), 1);
         due("enough(0, 1, 1): none", x.enough(0, 1, 1), NONE);
         due("nothing was seen", y.enough(1, 0, 100), NONE);
+        NineOnGrass e = on(PLAIN);
+        e.book(0, 1, 25);
+        e.book(0, 0, 76);
+        due("not before 101 times", e.enough(0, 1, 1), NONE);
         // 2 by 4 k is no more than w hundredths.
         due("enough(y, 0, 1, 50)", y.enough(0, 1, 50), 1);
         due("enough(y, 0, 1, 49)", y.enough(0, 1, 49), 2);
@@ -1088,6 +1110,7 @@ public final class PromisesTest {
         due("38 and 26", z.play(0, 2, 1), 4);
         due("38, 26 and 13", z.play(0, 3, 1), 4);
         due("PLAYED", z.score(3), 5);
+        z.stand(0, 145);
         put(z, "ball 0 way 4 pace 1 air 8 for 1;");
         z.batter(4, 0);
         due("sixty", z.play(0, 60, -7), 240);
