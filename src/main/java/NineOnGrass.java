@@ -19,6 +19,7 @@ public final class NineOnGrass {
     private static final int TRAYS = 4;
     private static final int IMAGES = 3;
     private static final int MOST_SEEN = 9999;
+    private static final int MOST_WALKED = FIELDERS * ACROSS;
 
     private static final int LOOKS = 1;
     private static final int KEEPS_DOWN = 2;
@@ -695,7 +696,7 @@ public final class NineOnGrass {
     /** Of each set of goals the least sum by which as many of the first starts come to them. */
     private int leastWalk(int many) {
         int all = (1 << many) - 1;
-        Arrays.fill(walked, Integer.MAX_VALUE);
+        Arrays.fill(walked, MOST_WALKED);
         walked[0] = 0;
         for (int set = 0; set < all; set++) {
             int who = Integer.bitCount(set);

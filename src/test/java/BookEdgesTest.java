@@ -20,6 +20,14 @@ public final class BookEdgesTest extends Due {
         due("of another HIT", x.hit(0, 0, 5), 0);
         due("of another BALL", x.hit(5, 0, 5), 0);
         due("all at once", x.book(5, 0, 9999), 9999);
+        x = on("ball 0" + " way 4 pace 1 for 1".repeat(8) + ";ball 5" + " way 4 pace 1 for 1".repeat(8) + ";");
+        for (int hit = 0; hit < 8; hit++) {
+            due("the last BALL", x.book(5, hit, 10 + hit), 10 + hit);
+        }
+        for (int hit = 0; hit < 8; hit++) {
+            due("the first BALL", x.book(0, hit, 1), 1);
+            due("the last BALL", x.hit(5, hit, 5), 10 + hit);
+        }
         x = on(TWO);
         x.book(0, 0, 9998);
         due("2 more than 9998", x.book(0, 0, 2), 9999);
@@ -57,6 +65,7 @@ public final class BookEdgesTest extends Due {
         int[] seen = {0, 1, 2, 98, 99, 100, 101, 9999};
         int[] weights = {1, 1, 2, 98, 99, 99, 99, 99};
         int sum = 0;
+        x.book(3, 0, 77);
         for (int hit = 0; hit < 8; hit++) {
             x.book(2, hit, seen[hit]);
             sum += seen[hit];
@@ -164,12 +173,19 @@ public final class BookEdgesTest extends Due {
         due("n 1, w 21", enough(1, 0, 21), 96);
         due("n 1, w 20", enough(1, 0, 20), NONE);
         due("n 1, w 100", enough(1, 0, 100), 6);
+        due("by 99 it is 2 times 50 of 10098", enough(25, 77, 1), 99);
+        due("not before 101", enough(25, 76, 1), NONE);
         due("n 9 of 25, w 50", enough(9, 16, 50), 1);
         due("2 times 4 by 25 is 32 of 100", enough(9, 16, 32), 1);
         due("more than 31 of 100", enough(9, 16, 31), 2);
         due("9999 of 9999, w 2: 200 by 9999 is more", enough(9999, 0, 2), 2);
         due("9999 of 9999, w 3", enough(9999, 0, 3), 1);
         due("9999 of 19998, w 1: 200 by 19998 is more", enough(9999, 9999, 1), 2);
+        NineOnGrass x = on(TWO);
+        x.book(0, 0, 16);
+        x.book(0, 1, 9);
+        due("another HIT", x.enough(0, 1, 32), 1);
+        due("another HIT", x.enough(0, 0, 32), 2);
     }
 
     @Says("ENOUGH for w (1 to 100); NONE: none, or nothing was seen of the BALL. IllegalArgumentException: w.")
@@ -303,6 +319,11 @@ public final class BookEdgesTest extends Due {
         x.batter(1, 100);
         due("50 of the first, not below 50: run", x.play(0, 1, seed(false, 7, 50)) > 0, true);
         due("49 of the first: OUT", x.play(0, 1, seed(false, 7, 49)), 0);
+        put(x, "ball 0 way 4 pace 9 air 3 for 99 way 4 pace 9 air 2 for 1;");
+        x.stand(0, at(2, 0));
+        x.stand(1, at(3, 0));
+        due("50 of the last, not below 50: run", x.play(0, 1, seed(false, 7, 50)) > 0, true);
+        due("49 of the last: OUT", x.play(0, 1, seed(false, 7, 49)), 0);
     }
 
     @Says("Who doesn't look makes no first DRAW.")

@@ -180,6 +180,54 @@ public final class BowlEdgesTest extends Due {
         due("nobody went", x.of(1, 0), at(1, 0));
     }
 
+    @Says("of all orders in which these stand on them LAWFULLY that with the least MEAN of a BALL")
+    static void p31_as_each_order_by_itself_tells() {
+        long[][] trays = {{at(2, 0), at(-3, 1), at(0, -3), at(3, 3)}, {at(1, -1), at(2, -1), at(3, -1), at(-2, 2)},
+            {at(-4, 0), at(0, 4), at(0, -4), at(4, 0)}};
+        for (long[] tray : trays) {
+            for (int kind = 0; kind <= 4; kind++) {
+                int[] best = leastOrder(tray, kind);
+                for (int i = 0; i < 4; i++) {
+                    NineOnGrass x = four(kind);
+                    row(x, 0, 2, tray);
+                    due("KIND " + kind + ", FIELDER " + i, x.match(0, 0, 4, i), best[i]);
+                }
+            }
+        }
+    }
+
+    private static NineOnGrass four(int kind) {
+        NineOnGrass x = on("worth 7;ball 0 way 4 pace 3 air 2 for 3 way 10 pace 2 for 2 way 0 pace 2 air 3 for 1 way 6 pace 2 for 2;");
+        x.fielder(0, 2, 70, 10, 2);
+        x.fielder(1, 1, 40, 5, 0);
+        x.fielder(2, 3, 95, 30, 5);
+        x.stand(8, at(0, 6));
+        x.batter(kind, 40);
+        return x;
+    }
+
+    private static int[] leastOrder(long[] tray, int kind) {
+        int[] best = null;
+        long up = 0;
+        long low = 1;
+        for (int code = 0; code < 256; code++) {
+            int[] order = {code >> 6, code >> 4 & 3, code >> 2 & 3, code & 3};
+            NineOnGrass x = four(kind);
+            for (int f = 0; f < 4; f++) {
+                x.stand(f, (int) tray[order[f]]);
+            }
+            if (x.judge() != NONE || !x.mean(0)) {
+                continue;
+            }
+            if (best == null || x.upper() * low < up * x.lower()) {
+                best = order;
+                up = x.upper();
+                low = x.lower();
+            }
+        }
+        return best == null ? new int[] {NONE, NONE, NONE, NONE} : best;
+    }
+
     // ---- promise 32: worth
 
     @Says({"WORTH of a FIELDER: MEAN without it less MEAN.", "WORTH is the FRACTION: true; no MEAN 0 over 0: false."})
@@ -273,6 +321,10 @@ public final class BowlEdgesTest extends Due {
         }
         x.stand(0, at(-1, 0));
         fraction("the other side", x, x.both(0, 1), 99, 25);
+        NineOnGrass z = on("run 60;ball 0 way 4 pace 1 for 1 way 12 pace 1 air 8 for 3;", at(1, 0));
+        z.batter(1, 100);
+        fraction("as who doesn't look, right", z, z.both(0, 0), 3, 1);
+        fraction("as who doesn't look, left", z, z.both(0, 100), 4, 1);
         NineOnGrass y = on("ball 0 way 4 pace 9 air 2 for 1;", at(2, 0));
         y.fielder(0, 9, 80, 10, 1);
         fraction("below 0: 4 of the left, 80 less 1600 of the right", y, y.both(0, 50), -28, 5);

@@ -266,9 +266,16 @@ public final class FieldEdgesTest extends Due {
         counts("the later", x, 0, 10, 8, 60, 99, 9, 8);
         x = on("slow 20 at 7 8 9; slow 0 at 8; slow 3 at 9 9 10; slow 1 at 10;");
         counts("the later", x, 107, 20, 0, 3, 1, 0);
-        x = on("edge 3;");
-        put(x, "");
-        counts("not that of another text", x, 0, 0, 8);
+        x = on("edge 3;run 3;worth 3;side 3;near 3;slow 3 at 3;ball 0" + HIT + ";");
+        due("a FAULT", put(x, "slow 4 at 4;slow 5 at 5;ball 1" + HIT + ";edge"), -12);
+        counts("not of a text with a FAULT", x, 103, 3, 0, 0);
+        due("another text", put(x, "ball 2" + HIT + ";"), 1);
+        counts("not of another text", x, 0, 1, 8, 9, 20, 9, 1);
+        counts("not of another text", x, 103, 0, 0, 0);
+        int[] hits = {0, 0, 1};
+        for (int ball = 0; ball < 3; ball++) {
+            due("not of another text", x.hits(ball), hits[ball]);
+        }
     }
 
     @Says({"slow: 0 to 20 of CELLS 0 to 288", "CELLS 0 to 288"})

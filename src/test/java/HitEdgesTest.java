@@ -38,6 +38,19 @@ public final class HitEdgesTest extends Due {
         }
     }
 
+    @Says("FAR of two CELLS is the greater of the differences of x and of y")
+    static void p13_far_is_the_greater_difference() {
+        int[][] beside = {{2, 0, 2}, {-2, 0, 2}, {0, 2, 2}, {0, -2, 2}, {2, 2, 2}, {-2, 2, 2}, {1, -2, 2}, {-1, -1, 1}, {2, 1, 2},
+            {3, 1, 3}, {1, 3, 3}, {-3, 3, 3}, {0, 1, 1}};
+        for (int[] b : beside) {
+            NineOnGrass x = on("ball 0 way 4 pace 9 air 2 for 1;", at(2 + b[0], b[1]));
+            x.fielder(0, 6, 80, 10, 1);
+            due("caught from " + b[0] + ", " + b[1], x.caught(0, 0), 80 - 10 * b[2]);
+            x.fielder(0, 9, 80, 10, 1);
+            due("reached from " + b[0] + ", " + b[1], x.catcher(0, 0), b[2] <= 2 ? 0 : NONE);
+        }
+    }
+
     @Says("A FIELDER REACHES step k, if k isn't below air (1 at least)")
     static void p13_reaches_if_k_isnt_below_air() {
         NineOnGrass x = on("ball 0 way 4 pace 9 air 3 for 1;", at(1, 0), at(2, 0));

@@ -22,6 +22,13 @@ public final class PlaceEdgesTest extends Due {
         x.stand(7, at(0, 5));
         due("nor a greater one where a lesser one is", x.one(7, 0), at(3, -1));
         due("nobody goes", x.of(7, 0), at(0, 5));
+        for (int other = 0; other <= 8; other++) {
+            x = on(EAST);
+            x.stand(4, at(0, 5));
+            x.stand(other == 4 ? 3 : other, at(2, -1));
+            x.fielder(other == 4 ? 3 : other, 9, 80, 10, 1);
+            due("not where " + other + " is", x.one(4, 0), at(3, -1));
+        }
         // Nowhere it is of use: the least CELL of all.
         due("all alike", on(OVER, at(1, 1)).one(0, 0), at(0, -7));
         due("all alike, but one is taken", on(OVER, at(1, 1), at(0, -7)).one(0, 0), at(-3, -6));
@@ -62,9 +69,14 @@ public final class PlaceEdgesTest extends Due {
         x = on("side 2;" + west, at(1, 1), at(-1, -7));
         x.fielder(1, 9, 80, 10, 1);
         due("side 2, another is on the left", x.one(0, 0), at(-5, -1));
-        x = on("side 1;" + west, at(1, 1), NONE, at(-1, -7));
-        x.fielder(2, 9, 80, 10, 1);
-        due("side 1, a greater one is on the left", x.one(0, 0), 8);
+        for (int other = 0; other <= 8; other++) {
+            int who = other == 4 ? 5 : other;
+            x = on("side 1;" + west);
+            x.stand(4, at(1, 1));
+            x.stand(who, at(-1, -7));
+            x.fielder(who, 9, 80, 10, 1);
+            due("side 1, " + who + " is on the left", x.one(4, 0), 8);
+        }
     }
 
     @Says({"ONE; NONE: no CELL, or no MEAN.", "without one: 0 over 0"})
@@ -111,6 +123,78 @@ public final class PlaceEdgesTest extends Due {
         due("SHARE 99", x.one(0, 0), at(2, -1));
         x.batter(1, 100);
         due("SHARE 100: the other one brings 4 wherever it is", x.one(0, 0), 8);
+        x.stand(1, at(-1, 0));
+        x.fielder(1, 9, 80, 10, 1);
+        due("SHARE 100: another has that one", x.one(0, 0), at(2, -1));
+        // North it is always OUT, for less 2000; east 400 less 24 times the CATCH is the greatest, though it is below 0.
+        for (String text : new String[] {"ball 0 way 4 pace 9 air 2 for 1 way 0 pace 9 air 8 for 1;",
+            "ball 0 way 0 pace 9 air 8 for 1 way 4 pace 9 air 2 for 1;"}) {
+            NineOnGrass y = on(text, at(0, 5), at(0, -8));
+            y.fielder(1, 9, 100, 0, 1);
+            y.batter(1, 100);
+            due("SHARE 100: the greatest COST below 0", y.one(0, 0), at(2, 0));
+        }
+    }
+
+    @Says("at most 8 each")
+    static void p22_of_8_hits() {
+        for (int last = 0; last < 8; last++) {
+            StringBuilder text = new StringBuilder("ball 5");
+            for (int hit = 0; hit < 8; hit++) {
+                text.append(hit == last ? " way 4 pace 1 for 1" : " way 8 pace 1 air 8 for 1");
+            }
+            NineOnGrass x = on("edge 7;" + text + ";", at(0, 5));
+            due("HIT " + last + " alone can be stopped", x.one(0, 5), at(2, -1));
+            due("settle", x.settle(5, 50), 1);
+            fraction("bound", x, x.bound(5), 21, 4);
+            fraction("gap", x, x.gap(5), 0, 1);
+        }
+    }
+
+    private static final String[] SCENES = {
+        "side 2;near 2;ball 0 way 4 pace 3 air 2 for 3 way 10 pace 2 for 2 way 0 pace 2 air 3 for 1;",
+        "edge 6;worth 5;run 5;slow 4 at 109 126;ball 0 way 14 pace 2 air 2 for 2 way 15 pace 1 for 1 way 6 pace 3 air 4 for 4;",
+        "side 1;run 12;ball 0 way 12 pace 3 air 1 for 3 way 0 pace 2 for 3 way 2 pace 1 for 1;",
+        "edge 5;near 0;worth 99;ball 0 way 3 pace 4 air 1 for 1 way 5 pace 4 air 2 for 1 way 13 pace 2 for 9;"};
+
+    /** A scene with four FIELDERS who are there, all of another PACE, HANDS and ARM. */
+    private static NineOnGrass scene(int i, int kind) {
+        NineOnGrass x = on(SCENES[i], at(3, 0), NONE, at(-2, 2), NONE, at(2, -2), NONE, NONE, NONE, at(0, 4));
+        x.fielder(0, 2, 70, 10, 2);
+        x.fielder(2, 1, 40, 5, 0);
+        x.fielder(4, 3, 95, 30, 5);
+        x.batter(kind, 40);
+        return x;
+    }
+
+    @Says("of all CELLS by which, if it stood there, all were LAWFUL that with the least MEAN, then the least")
+    static void p22_as_each_cell_by_itself_tells() {
+        for (int i = 0; i < SCENES.length; i++) {
+            for (int kind = 0; kind <= 4; kind++) {
+                for (int f : new int[] {0, 2, 4, 8}) {
+                    due("scene " + i + ", KIND " + kind + ", FIELDER " + f, scene(i, kind).one(f, 0), least(i, kind, f));
+                }
+            }
+        }
+    }
+
+    private static int least(int i, int kind, int f) {
+        int best = NONE;
+        long up = 0;
+        long low = 1;
+        for (int cell = 0; cell <= 288; cell++) {
+            NineOnGrass x = scene(i, kind);
+            x.stand(f, cell);
+            if (x.judge() != NONE || !x.mean(0)) {
+                continue;
+            }
+            if (best == NONE || x.upper() * low < up * x.lower()) {
+                best = cell;
+                up = x.upper();
+                low = x.lower();
+            }
+        }
+        return best;
     }
 
     // ---- promise 23: settle
@@ -139,6 +223,12 @@ public final class PlaceEdgesTest extends Due {
         due("settle", x.settle(0, 50), 2);
         stands("1 is first", x, NONE, at(-5, -1), NONE, at(2, -1));
         due("nobody is there", on(both).settle(0, 50), 0);
+        for (int f = 0; f <= 8; f++) {
+            x = on(EAST);
+            x.stand(f, at(0, 5));
+            due(f + " alone", x.settle(0, 50), 1);
+            due(f + " went", x.of(f, 0), at(2, -1));
+        }
     }
 
     @Says("it ends behind a round without MOVES, or with so many MOVES")
@@ -162,6 +252,53 @@ public final class PlaceEdgesTest extends Due {
             stands("at most " + most, x, want[Math.min(most, 3)]);
             due("settle(0, 50), the rest", x.settle(0, 50), 3 - Math.min(most, 3));
         }
+    }
+
+    @Says("it ends behind a round without MOVES, or with so many MOVES")
+    static void p23_not_before_a_whole_round_without_moves() {
+        // 0 and 8 go by turns; between them many don't, but no round is without a MOVE up to the fourth.
+        int[][] want = {{at(4, 1), at(3, -4)}, {at(-1, -3), at(3, -4)}, {at(-1, -3), at(0, -8)}, {at(-2, -2), at(0, -8)},
+            {at(-2, -2), at(0, -5)}, {at(-2, -2), at(0, -5)}};
+        for (int most = 0; most <= 5; most++) {
+            NineOnGrass x = on("side 1;ball 0 way 14 pace 3 air 2 for 2 way 0 pace 1 for 3;", at(4, 1));
+            x.stand(8, at(3, -4));
+            due("settle(0, " + most + ")", x.settle(0, most), Math.min(most, 4));
+            due("0, at most " + most, x.of(0, 0), want[most][0]);
+            due("8, at most " + most, x.of(8, 0), want[most][1]);
+        }
+    }
+
+    @Says("SETTLED: FIELDERS that are there, by number, again and again: each goes to ONE, if MEAN is less there (a MOVE)")
+    static void p23_as_one_and_mean_tell() {
+        for (int i = 0; i < SCENES.length; i++) {
+            for (int kind = 0; kind <= 4; kind++) {
+                for (int most : new int[] {1, 2, 3, 5, 50}) {
+                    NineOnGrass x = scene(i, kind);
+                    NineOnGrass y = scene(i, kind);
+                    String what = "scene " + i + ", KIND " + kind + ", most " + most;
+                    due(what, x.settle(0, most), told(y, most));
+                    for (int f = 0; f < 9; f++) {
+                        due(what + ", STAND of " + f, x.of(f, 0), y.of(f, 0));
+                    }
+                }
+            }
+        }
+    }
+
+    private static int told(NineOnGrass x, int most) {
+        int moves = 0;
+        int before = -1;
+        while (moves < most && moves != before) {
+            before = moves;
+            for (int f = 0; f < 9 && moves < most; f++) {
+                int cell = x.of(f, 0) == NONE ? NONE : x.one(f, 0);
+                if (cell != NONE && x.brave(f, 0, cell) && x.upper() < 0) {
+                    x.stand(f, cell);
+                    moves++;
+                }
+            }
+        }
+        return moves;
     }
 
     @Says({"SETTLED, with at most so many MOVES (0 to 50): how many there were.", "IllegalArgumentException: the number."})
@@ -225,21 +362,24 @@ public final class PlaceEdgesTest extends Due {
     @Says("of each HIT let c be the greatest CATCH, and r the least RUNS, of any FIELDER that is there (each alone, "
             + "c as it is CATCHER, r as if nobody were CATCHER)")
     static void p24_each_alone_of_any_fielder_that_is_there() {
-        NineOnGrass x = on("ball 0 way 4 pace 1 air 2 for 1;", 0, 0, NONE, 0);
-        x.fielder(0, 9, 10, 0, 9);
-        x.fielder(1, 9, 30, 0, 9);
-        x.fielder(2, 1, 100, 0, 0);
-        x.fielder(3, 9, 20, 0, 9);
-        // r of each is 3: 3 and 9 times 3, by 9.
-        fraction("70 times 3 less 600", x, x.bound(0), -39, 10);
-        x.fielder(3, 9, 20, 0, 0);
-        fraction("CATCH 30 of 1, r 0 of 3", x, x.bound(0), -6, 1);
-        x.stand(1, NONE);
-        fraction("without 1", x, x.bound(0), -4, 1);
-        x.stand(2, 0);
-        fraction("with 2", x, x.bound(0), -20, 1);
+        // Far outside, where the HIT comes down, and behind that: where they stand, and who else, is all one.
+        for (int cell : new int[] {0, at(2, 0), at(3, 0)}) {
+            NineOnGrass x = on("ball 0 way 4 pace 1 air 2 for 1;", cell, cell, NONE, cell);
+            x.fielder(0, 9, 10, 0, 9);
+            x.fielder(1, 9, 30, 0, 9);
+            x.fielder(2, 1, 100, 0, 0);
+            x.fielder(3, 9, 20, 0, 9);
+            // r of each is 3: 3 and 9 times 3, by 9.
+            fraction("70 times 3 less 600", x, x.bound(0), -39, 10);
+            x.fielder(3, 9, 20, 0, 0);
+            fraction("CATCH 30 of 1, r 0 of 3", x, x.bound(0), -6, 1);
+            x.stand(1, NONE);
+            fraction("without 1", x, x.bound(0), -4, 1);
+            x.stand(2, cell);
+            fraction("with 2", x, x.bound(0), -20, 1);
+        }
         // Who has the catch stops it too, as if nobody were CATCHER.
-        x = on("ball 0 way 4 pace 1 air 2 for 1;", at(2, 0));
+        NineOnGrass x = on("ball 0 way 4 pace 1 air 2 for 1;", at(2, 0));
         due("as it stands there is no STOP", x.stops(0, 0), NONE);
         fraction("c 80 and r 0", x, x.bound(0), -16, 1);
     }

@@ -221,13 +221,14 @@ public final class TrayEdgesTest extends Due {
         x.image(1);
         put(x, "near 0;edge 2;slow 9 at 3;ball 0 way 1 pace 1 air 1 for 1;ball 1 way 1 pace 1 air 1 for 1;"
                 + "ball 2 way 1 pace 1 air 1 for 1;");
+        x.book(2, 0, 9);
         for (int f = 0; f < 9; f++) {
             x.fielder(f, 1, 1, 1, 1);
             x.stand(f, f);
         }
         x.batter(0, 0);
         x.chase(false);
-        x.way(3, 0);
+        x.way(1, 0);
         x.restore(1);
         isFull(x);
         // What comes behind restore() doesn't change the IMAGE.
@@ -244,29 +245,34 @@ public final class TrayEdgesTest extends Due {
 
     private static NineOnGrass full() {
         NineOnGrass x = on("edge 7;run 20;worth 30;side 8;near 2;slow 4 at 100 101;ball 0 way 4 pace 5 air 2 for 9 way 8 pace 1 for 2;"
-                + "ball 1 way 12 pace 1 for 3;", at(2, 0), NONE, at(0, 2));
+                + "ball 1 way 12 pace 1 for 3;ball 5 way 2 pace 3 air 4 for 5;", at(2, 0), NONE, at(0, 2));
         x.fielder(0, 9, 8, 7, 6);
         x.fielder(8, 2, 3, 4, 5);
         x.way(0, 0);
         x.stand(8, at(5, 0));
-        x.way(2, 0);
+        x.way(3, 0);
         x.batter(1, 40);
         x.chase(true);
         x.book(0, 0, 5);
         x.book(0, 1, 6);
+        x.book(5, 0, 7);
         x.play(1, 2, 1);
         return x;
     }
 
     private static void isFull(NineOnGrass x) {
-        counts("THE FIELD", x, 0, 8, 7, 20, 30, 8, 2);
+        counts("THE FIELD", x, 0, 9, 7, 20, 30, 8, 2);
         counts("there", x, 6, 3);
-        counts("BATTER, CHASE, WAYS", x, 8, 1, 40, 1, 5);
+        counts("BATTER, CHASE, WAYS", x, 8, 1, 40, 1, 9);
         counts("slow", x, 199, 0, 4, 4, 0);
         due("slow of the other", x.count(103), 0);
-        int[] hits = {2, 1, 0};
-        for (int ball = 0; ball < 3; ball++) {
+        int[] hits = {2, 1, 0, 0, 0, 1};
+        for (int ball = 0; ball <= 5; ball++) {
             due("hits", x.hits(ball), hits[ball]);
+        }
+        int[] last5 = {2, 3, 4, 5, 4, 7};
+        for (int what = 0; what < 6; what++) {
+            due("hit(5, 0, " + what + ")", x.hit(5, 0, what), last5[what]);
         }
         int[][] hit = {{4, 5, 2, 9, 7, 5}, {8, 1, 0, 2, 7, 6}};
         for (int h = 0; h < 2; h++) {
@@ -286,12 +292,12 @@ public final class TrayEdgesTest extends Due {
         for (int what = 0; what < 4; what++) {
             due("score(" + what + ")", x.score(what), score[what]);
         }
-        x.way(2, 1);
-        stands("WAY 2", x, at(2, 0), NONE, at(0, 2), NONE, NONE, NONE, NONE, NONE, at(5, 0));
+        x.way(3, 1);
+        stands("WAY 3", x, at(2, 0), NONE, at(0, 2), NONE, NONE, NONE, NONE, NONE, at(5, 0));
         x.way(0, 1);
         stands("WAY 0", x, at(2, 0), NONE, at(0, 2), NONE, NONE, NONE, NONE, NONE, NONE);
         refused("WAY 1", ILL, () -> x.way(1, 1));
-        refused("WAY 3", ILL, () -> x.way(3, 1));
+        refused("WAY 2", ILL, () -> x.way(2, 1));
     }
 
     @Says("all but the tape, the FAULT, the FRACTION and TRAYS")

@@ -111,6 +111,18 @@ public final class WayEdgesTest extends Due {
         rest("between, the others", x, 2, 1, 0, 3, 7, 16, 7);
     }
 
+    @Says("of all shares p (0 to 1) of a (the others b)")
+    static void p27_no_share_above_1_or_below_0() {
+        // East 300 by WAY 0, 400 by 1; west 100 and 0: by a share of 2 it were 200 for both, by less 1 the other way round.
+        NineOnGrass x = on("run 6;ball 0 way 4 pace 9 for 1 way 12 pace 1 for 1;");
+        x.fielder(0, 9, 80, 10, 1);
+        x.fielder(1, 9, 80, 10, 1);
+        keep(x, 0, at(4, 0), at(-3, 0));
+        keep(x, 1, NONE, at(-1, 0));
+        rest("no more than 1", x, 0, 1, 0, 1, 1, 3, 1);
+        rest("no less than 0", x, 1, 0, 0, 0, 1, 3, 1);
+    }
+
     @Says("is least; then the least p")
     static void p27_then_the_least_p() {
         NineOnGrass x = mixed();
@@ -173,6 +185,23 @@ public final class WayEdgesTest extends Due {
         // Who doesn't look takes no SHARE, who looks none either: COST is COST.
         x.batter(1, 100);
         rest("of one who looks", x, 0, 1, 0, 3, 4, 1, 1);
+    }
+
+    @Says("over all HITS, is least")
+    static void p27_over_8_hits() {
+        for (int last = 0; last < 8; last++) {
+            StringBuilder text = new StringBuilder("run 60;ball 5");
+            for (int hit = 0; hit < 8; hit++) {
+                text.append(hit == last ? " way 4 pace 1 for 1" : " way 12 pace 1 for 1");
+            }
+            NineOnGrass x = on(text + ";");
+            keep(x, 0, at(1, 0), at(-1, 0));
+            keep(x, 1, NONE, at(-1, 0));
+            keep(x, 2, at(1, 0));
+            rest("HIT " + last + " brings 4 by b", x, 0, 1, 5, 1, 1, 0, 1);
+            rest("all others bring 4 by b", x, 0, 2, 5, 1, 1, 0, 1);
+            rest("half and half", x, 1, 2, 5, 1, 2, 2, 1);
+        }
     }
 
     // ---- promise 28: walk
@@ -274,6 +303,13 @@ public final class WayEdgesTest extends Due {
         put(x, "edge 7;");
         x.way(0, 0);
         due("no HITS", x.tells(0, 0), NONE);
+        for (int ball = 0; ball <= 5; ball++) {
+            x = on("run 60;ball " + ball + " way 4 pace 1 for 1 way 12 pace 1 for 99;");
+            keep(x, 0);
+            keep(x, 1, at(1, 0));
+            due("above by 1 of 25", x.tells(0, 1), ball);
+            due("below by 1 of 25", x.tells(1, 0), NONE);
+        }
     }
 
     @Says({"no such WAY (as below)", "it isn't kept (as below)"})
